@@ -12,6 +12,8 @@ public final class WaterFibers {
   private static final int TURNS_FORETOLD = 200;
   private static final int PLACES_TRIED = 8;
   private static final int TURNS_TRIED = 100;
+  /** All fibers find room in a queue, and as many drops as a channel is ever tried with. */
+  private static final int MOST_QUEUED = 8;
 
   private static final int READY = 0;
   private static final int WAITS_TO_SEND = 1;
@@ -338,8 +340,7 @@ public final class WaterFibers {
 
   /** Numbers in the order in which they came; drops, or fibers that stand in a line. */
   private static final class Queue {
-    /** Holds all fibers, and as many drops as a channel is ever tried with. */
-    private final int[] cells = new int[8];
+    private final int[] cells = new int[MOST_QUEUED];
     int size;
 
     int look(int index) {
@@ -364,7 +365,7 @@ public final class WaterFibers {
 
     /** Takes the first number out; NONE if there is none. */
     int takeFirst() {
-      if (size <= 0) {
+      if (size <= 0 || cells.length == 0) {
         return NONE;
       }
       int first = cells[0];

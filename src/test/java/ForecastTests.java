@@ -19,6 +19,8 @@ final class ForecastTests {
     meanTurns();
     digestOfNothing();
     digestOfMuch();
+    forecastsComeTrue();
+    waitingTakersAreForeseen();
     nothingIsChanged();
     wrongNumbers();
     Checks.end("ForecastTests");
@@ -236,6 +238,41 @@ final class ForecastTests {
     Checks.yes("P29 isStuck() counts too", clock.isStuck());
   }
 
+  /** Asked in the midst of sleeping, waiting and going back, and borne out by the turns. */
+  private static void forecastsComeTrue() {
+    int untilDone = turnsBorneOut(busy(), true);
+    int untilStuck = turnsBorneOut(busy(), false);
+    WaterFibers clock = busy();
+    for (int turn = 0; turn <= untilStuck; turn++) {
+      int dueDone = Math.max(untilDone - turn, 0);
+      Checks.same("P24 turnsUntilDone(0) at " + turn, clock.turnsUntilDone(0), dueDone);
+      Checks.same("P25 turnsUntilStuck() at " + turn, clock.turnsUntilStuck(), untilStuck - turn);
+      Checks.same("P26 sumIn(1, 60) at " + turn, clock.sumIn(1, 60), 30);
+      clock.run(1);
+    }
+  }
+
+  /** In how many turns, made one by one, the fiber 0 is done or all are stuck. */
+  private static int turnsBorneOut(WaterFibers clock, boolean done) {
+    int turns = 0;
+    while (turns < 200 && !(done ? clock.stateOf(0) == Clocks.DONE : clock.isStuck())) {
+      clock.run(1);
+      turns++;
+    }
+    return turns;
+  }
+
+  private static void waitingTakersAreForeseen() {
+    WaterFibers clock = Clocks.of(2, 2);
+    Clocks.steps(clock, 0, Clocks.TAKE, 0, 0);
+    Clocks.steps(clock, 1, Clocks.SLEEP, 3, 0, Clocks.SEND, 0, 8);
+    clock.run(2);
+    Checks.same("P24 turnsUntilDone(0), waiting to take", clock.turnsUntilDone(0), 4);
+    Checks.same("P26 sumIn(0, 3), waiting to take", clock.sumIn(0, 3), 0);
+    Checks.same("P26 sumIn(0, 4), waiting to take", clock.sumIn(0, 4), 8);
+    Checks.same("P27 placesWanted(0), waiting to take", clock.placesWanted(0), 2);
+  }
+
   private static void nothingIsChanged() {
     WaterFibers asked = busy();
     WaterFibers left = busy();
@@ -255,7 +292,7 @@ final class ForecastTests {
 
   private static WaterFibers busy() {
     WaterFibers clock = Clocks.of(2, 1);
-    Clocks.steps(clock, 0, Clocks.SEND, 0, 5, Clocks.GO_BACK, 0, 3, Clocks.SLEEP, 2, 0,
+    Clocks.steps(clock, 0, Clocks.SEND, 0, 5, Clocks.GO_BACK, 0, 2, Clocks.SLEEP, 2, 0,
         Clocks.GO_BACK, 0, 1);
     Clocks.steps(clock, 1, Clocks.TAKE, 0, 0, Clocks.GO_BACK, 0, 6, Clocks.SEND_SUM, 0, 0);
     return clock;
