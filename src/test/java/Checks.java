@@ -7,32 +7,35 @@ final class Checks {
 
   private static int made = 0;
   private static int wrong = 0;
+  private static String under = "";
 
   private Checks() {
   }
 
+  /** The words go ahead of all that the next checks print. */
+  static void under(String words) {
+    under = words;
+  }
+
+  static int made() {
+    return made;
+  }
+
   static void same(String what, long got, long due) {
-    made++;
-    if (got != due) {
-      wrong++;
-      System.out.println(what + " answered " + got + ", due is " + due);
-    }
+    sameText(what, String.valueOf(got), String.valueOf(due));
   }
 
   static void sameText(String what, String got, String due) {
     made++;
     if (!got.equals(due)) {
       wrong++;
-      System.out.println(what + " answered " + got + ", due is " + due);
+      System.out.println(under + what + " answered " + got + ", due is " + due);
     }
   }
 
+  /** The very same double is due; 0 and -0 are not the same. */
   static void sameMean(String what, double got, double due) {
-    made++;
-    if (got != due) {
-      wrong++;
-      System.out.println(what + " answered " + got + ", due is " + due);
-    }
+    sameText(what, String.valueOf(got), String.valueOf(due));
   }
 
   static void yes(String what, boolean got) {
@@ -45,13 +48,20 @@ final class Checks {
 
   /** The very class of the exception is due, and no class below it. */
   static void throwing(String what, Class<? extends RuntimeException> due, Call call) {
-    String got = "nothing";
+    sameText(what + " throws", thrownBy(call), due.getName());
+  }
+
+  static void answers(String what, Call call) {
+    sameText(what + " throws", thrownBy(call), "nothing");
+  }
+
+  private static String thrownBy(Call call) {
     try {
       call.make();
     } catch (RuntimeException e) {
-      got = e.getClass().getName();
+      return e.getClass().getName();
     }
-    sameText(what + " throws", got, due.getName());
+    return "nothing";
   }
 
   static void noSuchIndex(String what, Call call) {

@@ -37,6 +37,82 @@ final class Clocks {
     }
   }
 
+  /**
+   * Fibers in each state, the first ones in the states 1, 2, 2, 3, 4, 0 and 5, the ready one in the
+   * midst of going back; there is room for one channel and one fiber more. The channel 0 is full, the
+   * channel 1 holds one drop and has room for two, and the channel 2 is empty.
+   */
+  static WaterFibers busy() {
+    WaterFibers clock = of(7, 1, 3, 2);
+    clock.pour(0, 7);
+    clock.pour(1, 8);
+    steps(clock, 0, SEND, 0, 5, GIVE_WAY, 0, 0);
+    steps(clock, 1, TAKE, 2, 0, SEND_SUM, 1, 0);
+    steps(clock, 2, TAKE, 2, 0);
+    steps(clock, 3, SLEEP, 9, 0, TAKE, 0, 0, SEND, 2, 4, SEND, 2, 3);
+    steps(clock, 4, WAIT_FOR, 3, 0, SLEEP, 2, 0);
+    steps(clock, 5, GIVE_WAY, 0, 0, GO_BACK, 0, 9, SEND, 1, 2);
+    clock.run(8);
+    return clock;
+  }
+
+  /** As many channels, drops, fibers and steps as there can be: the channel i has i + 1 places. */
+  static WaterFibers full() {
+    WaterFibers clock = of(8, 1, 2, 3, 4);
+    for (int channel = 0; channel < 4; channel++) {
+      for (int drop = 0; drop <= channel; drop++) {
+        clock.pour(channel, 10 * channel + drop);
+      }
+    }
+    for (int fiber = 0; fiber < 8; fiber++) {
+      for (int step = 0; step < 12; step++) {
+        clock.addStep(fiber, fiber % 2 == 0 ? TAKE : SEND, step % 4, step);
+      }
+    }
+    return clock;
+  }
+
+  /** So many fibers, some of them in turns, and so many channels, each with one drop. */
+  static WaterFibers sized(int fibers, int channels) {
+    WaterFibers clock = of(fibers);
+    for (int channel = 0; channel < channels; channel++) {
+      clock.addChannel(1 + channel);
+      clock.pour(channel, channel);
+    }
+    for (int fiber = 0; fiber < fibers; fiber++) {
+      steps(clock, fiber, SLEEP, 3, 0, GIVE_WAY, 0, 0);
+    }
+    clock.run(2);
+    return clock;
+  }
+
+  /** A fiber that is done in so many turns, 1 to 221: it sleeps in pieces, and has a turn more. */
+  static void lasts(WaterFibers clock, int fiber, int turns) {
+    if (turns == 1) {
+      clock.addStep(fiber, GIVE_WAY, 0, 0);
+    }
+    for (int left = turns - 1; left > 0; left -= 20) {
+      clock.addStep(fiber, SLEEP, Math.min(left, 20), 0);
+    }
+  }
+
+  /**
+   * The fiber 0 has the sum (2^31 - 2) * unit, the unit being 1 or -1, and waits to take three drops
+   * out of the channel 0, with a turn for each; then it sends its sum into the channel 1.
+   */
+  static WaterFibers nearTheEnd(int unit) {
+    WaterFibers clock = of(1, 1, 1);
+    steps(clock, 0, TAKE, 0, 0, GIVE_WAY, 0, 0, SEND_SUM, 1, 0, TAKE, 1, 0, GO_BACK, 0, 9,
+        GO_BACK, 0, 2, TAKE, 0, 0, GIVE_WAY, 0, 0, TAKE, 0, 0, GIVE_WAY, 0, 0, TAKE, 0, 0,
+        SEND_SUM, 1, 0);
+    clock.run(1);
+    for (int pass = 0; pass < 30; pass++) {
+      clock.pour(0, unit);
+      clock.run(3);
+    }
+    return clock;
+  }
+
   /** The states of all fibers, a digit each. */
   static String states(WaterFibers clock) {
     StringBuilder text = new StringBuilder();

@@ -140,8 +140,30 @@ final class Model {
         return later.fibers.get(a).sum;
       case Calls.PLACES_WANTED: return placesWanted(a);
       case Calls.MEAN_TURNS: return meanBits();
-      default: throw new IllegalArgumentException("no question");
+      default: return digest();
     }
+  }
+
+  private long digest() {
+    long d = 2213;
+    for (int question : new int[] {Calls.TIME, Calls.CHANNELS, Calls.FIBERS, Calls.DONE,
+        Calls.IDLE_TURNS, Calls.NEXT, Calls.IS_STUCK, Calls.TURNS_UNTIL_STUCK}) {
+      d = d * 31 + answer(new int[] {question, 0});
+    }
+    for (int channel = 0; channel < channels.size(); channel++) {
+      d = d * 31 + channels.get(channel).drops.size();
+      for (int drop : channels.get(channel).drops) {
+        d = d * 31 + drop;
+      }
+      d = (d * 31 + waiting(1, channel)) * 31 + waiting(2, channel);
+      d = d * 31 + placesWanted(channel);
+    }
+    for (int fiber = 0; fiber < fibers.size(); fiber++) {
+      for (int question = Calls.STATE_OF; question <= Calls.TURNS_UNTIL_DONE; question++) {
+        d = d * 31 + answer(new int[] {question, fiber});
+      }
+    }
+    return d;
   }
 
   private Model again() {

@@ -1,10 +1,13 @@
 import java.util.Arrays;
 import java.util.Random;
 
-/** Promises 1 to 29 on many runs, drawn from a fixed seed: the class answers as the model does. */
+/**
+ * Promises 1 to 29 on many runs, drawn from a fixed seed: the class answers as the model does. A run
+ * keeps to the 512 calls that the document promises something about.
+ */
 final class ModelTests {
   private static final int RUNS = 4000;
-  private static final int CALLS = 120;
+  private static final int CALLS = 200;
   private static final int[] ODD = {
     -1000, -999, -1, 0, 1, 2, 9, 10, 12, 13, 20, 21, 60, 61, 999, 1000,
     Integer.MIN_VALUE, Integer.MAX_VALUE,
@@ -35,8 +38,8 @@ final class ModelTests {
     setUp();
     for (int i = 0; i < CALLS && !differs; i++) {
       compare(drawn());
-      if (i % 20 == 0) {
-        compareAll();
+      if (i % 10 == 0) {
+        compare(call(Calls.DIGEST, 0, 0, 0, 0));
       }
     }
     compareAll();
@@ -52,6 +55,15 @@ final class ModelTests {
     for (int left = random.nextInt(60); left > 0; left--) {
       compare(drawnStep());
     }
+  }
+
+  /** The model is asked, and not the clock, so that the clock's calls are not used up. */
+  private int channels() {
+    return (int) model.answer(call(Calls.CHANNELS, 0));
+  }
+
+  private int fibers() {
+    return (int) model.answer(call(Calls.FIBERS, 0));
   }
 
   private int[] call(int... numbers) {
@@ -70,26 +82,26 @@ final class ModelTests {
       return drawnStep();
     }
     if (lot < 36) {
-      return call(Calls.POUR, drawn(0, clock.channels() - 1), drawn(-999, 999), 0, 0);
+      return call(Calls.POUR, drawn(0, channels() - 1), drawn(-999, 999), 0, 0);
     }
     if (lot < 56) {
       return call(Calls.RUN, random.nextInt(4) == 0 ? drawn(1, 60) : drawn(1, 4), 0, 0, 0);
     }
     int question = Calls.TIME + random.nextInt(Calls.DIGEST - Calls.TIME);
-    int last = Calls.asksChannel(question) ? clock.channels() - 1 : clock.fibers() - 1;
+    int last = Calls.asksChannel(question) ? channels() - 1 : fibers() - 1;
     int second = question == Calls.SUM_IN ? drawn(1, 60) : drawn(0, 3);
     return call(question, drawn(0, last), second, 0, 0);
   }
 
   private int[] drawnStep() {
-    int fiber = drawn(0, clock.fibers() - 1);
+    int fiber = drawn(0, fibers() - 1);
     int kind = drawn(0, 6);
-    int one = drawn(0, clock.channels() - 1);
+    int one = drawn(0, channels() - 1);
     int two = drawn(-999, 999);
     if (kind == 2) {
       one = random.nextBoolean() ? drawn(1, 20) : drawn(1, 3);
     } else if (kind == 4) {
-      one = drawn(0, clock.fibers() - 1);
+      one = drawn(0, fibers() - 1);
     } else if (kind == 5) {
       one = drawn(0, 11);
       two = drawn(1, 9);
@@ -131,19 +143,19 @@ final class ModelTests {
 
   private void compareAll() {
     for (int question = Calls.TIME; question < Calls.DIGEST && !differs; question++) {
-      int count = Calls.asksChannel(question) ? clock.channels()
-          : Calls.asksFiber(question) ? clock.fibers() : 1;
+      int count = Calls.asksChannel(question) ? channels()
+          : Calls.asksFiber(question) ? fibers() : 1;
       for (int i = 0; i < count && !differs; i++) {
         compare(call(question, i, question == Calls.SUM_IN ? 17 : 0, 0, 0));
       }
     }
-    for (int channel = 0; channel < clock.channels() && !differs; channel++) {
+    for (int channel = 0; channel < channels() && !differs; channel++) {
       for (int drop = 0; drop < 5 && !differs; drop++) {
         compare(call(Calls.VALUE_AT, channel, drop, 0, 0));
       }
     }
     if (!differs) {
-      Checks.same(name + "digest()", clock.digest(), Digests.of(clock));
+      compare(call(Calls.DIGEST, 0, 0, 0, 0));
     }
   }
 }
