@@ -267,16 +267,19 @@ public final class WaterFibers {
     d = d * 31 + next();
     d = d * 31 + (isStuck() ? 1 : 0);
     d = d * 31 + turnsUntilStuck();
-    for (int channel = 0; channel < channels(); channel++) {
-      d = d * 31 + held(channel);
-      for (int drop = 0; drop < held(channel); drop++) {
+    int channelCount = channels();
+    for (int channel = 0; channel < channelCount; channel++) {
+      int drops = held(channel);
+      d = d * 31 + drops;
+      for (int drop = 0; drop < drops; drop++) {
         d = d * 31 + valueAt(channel, drop);
       }
       d = d * 31 + sendersAt(channel);
       d = d * 31 + takersAt(channel);
       d = d * 31 + placesWanted(channel);
     }
-    for (int fiber = 0; fiber < fibers(); fiber++) {
+    int fiberCount = fibers();
+    for (int fiber = 0; fiber < fiberCount; fiber++) {
       d = d * 31 + stateOf(fiber);
       d = d * 31 + placeOf(fiber);
       d = d * 31 + sumOf(fiber);

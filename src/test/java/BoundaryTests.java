@@ -1,12 +1,14 @@
 import java.io.IOException;
 
 /**
- * Promises 1 to 29 at their bounds: each sentence of the document that names one has a test of its own
- * here, told by its promise and its words.
+ * Promises 1 to 29, and what they rest on, at their bounds: each sentence of the document, from its
+ * first line on, has a test of its own here, told by its promise and its words.
  */
 final class BoundaryTests {
   public static void main(String[] args) throws IOException {
     Sentences sentences = new Sentences();
+    FaceBounds.hold(sentences);
+    OpeningBounds.hold(sentences);
     ThingBounds.hold(sentences);
     StepBounds.hold(sentences);
     TurnBounds.hold(sentences);
@@ -14,6 +16,7 @@ final class BoundaryTests {
     SetupBounds.hold(sentences);
     ReadBounds.hold(sentences);
     ForecastBounds.hold(sentences);
+    ArgumentBounds.hold(sentences);
     sentences.areAllHeld();
     Checks.end("BoundaryTests");
   }

@@ -6,15 +6,6 @@ import java.util.TreeSet;
 
 /** The class has the document's face and nothing else that can be seen from outside. */
 final class FaceTests {
-  private static final String[] FACE = {
-    "int addChannel(int)", "int addFiber()", "int addStep(int, int, int, int)", "int pour(int, int)",
-    "int run(int)", "int time()", "int channels()", "int fibers()", "int done()", "int idleTurns()",
-    "int next()", "boolean isStuck()", "int held(int)", "int valueAt(int, int)", "int sendersAt(int)",
-    "int takersAt(int)", "int stateOf(int)", "int placeOf(int)", "int sumOf(int)", "int stepsDone(int)",
-    "int turnsOf(int)", "int placeInLine(int)", "int turnsUntilDone(int)", "int turnsUntilStuck()",
-    "int sumIn(int, int)", "int placesWanted(int)", "double meanTurns()", "long digest()",
-  };
-
   public static void main(String[] args) {
     Class<?> face = WaterFibers.class;
     Checks.yes("the class is public and final",
@@ -26,12 +17,15 @@ final class FaceTests {
       Checks.yes("the field " + field.getName() + " is private and final",
           Modifier.isPrivate(field.getModifiers()) && Modifier.isFinal(field.getModifiers()));
     }
-    TreeSet<String> due = new TreeSet<>(java.util.Arrays.asList(FACE));
+    TreeSet<String> due = new TreeSet<>();
+    for (int promise = Face.FIRST; promise <= Face.LAST; promise++) {
+      due.add(Face.shown(promise));
+    }
     TreeSet<String> got = new TreeSet<>();
     TreeSet<String> names = new TreeSet<>();
     for (Method method : face.getDeclaredMethods()) {
       if (Modifier.isPublic(method.getModifiers())) {
-        got.add(shown(method));
+        got.add(Face.shown(method));
         names.add(method.getName());
       }
     }
@@ -44,14 +38,5 @@ final class FaceTests {
       }
     }
     Checks.end("FaceTests");
-  }
-
-  private static String shown(Method method) {
-    StringBuilder text = new StringBuilder();
-    text.append(method.getReturnType().getName()).append(' ').append(method.getName()).append('(');
-    for (int i = 0; i < method.getParameterCount(); i++) {
-      text.append(i == 0 ? "" : ", ").append(method.getParameterTypes()[i].getName());
-    }
-    return text.append(')').toString();
   }
 }

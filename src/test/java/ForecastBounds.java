@@ -31,7 +31,12 @@ final class ForecastBounds {
     holdPlacesWanted(sentences);
     sentences.hold(28, "Returns the mean of turns that fibers had", ForecastBounds::meanTurns);
     sentences.hold(28, "0 without any.", ForecastBounds::meanWithoutAny);
+    sentences.hold(29, "Computes a checksum.", ForecastBounds::digestChangesNothing);
     sentences.hold(29, "A number d starts with 2213", ForecastBounds::digestOfNothing);
+    sentences.hold(29, "for each of the following numbers x, d becomes d * 31 + x",
+        ForecastBounds::digestStepByStep);
+    sentences.hold(29, "time(), channels(), fibers(), done(), idleTurns(), next(), isStuck(),"
+        + " turnsUntilStuck()", ForecastBounds::digestOfTheClock);
     sentences.hold(29, "which wraps around as a 64-bit integer", ForecastBounds::digestWrapsAround);
     sentences.hold(29, "(whether something is so counts 1 or 0)", ForecastBounds::digestOfStuck);
     sentences.hold(29, "then for each channel held(), its drops by valueAt(), sendersAt(),"
@@ -47,6 +52,7 @@ final class ForecastBounds {
     sentences.hold(27, "with which, had it so many from now on", ForecastBounds::placesFromNowOn);
     sentences.hold(27, "all fibers would be done", ForecastBounds::placesForAllFibers);
     sentences.hold(27, "in 100 turns or fewer", ForecastBounds::placesInHundredTurns);
+    sentences.hold(27, "if nothing else is done", ForecastBounds::placesIfNothingElse);
     sentences.hold(27, "(those who wait to send there wait till one is taken, all the same)",
         ForecastBounds::sendersWaitAllTheSame);
     sentences.hold(27, "-1 if there is none", ForecastBounds::noneIsWanted);
@@ -381,6 +387,19 @@ final class ForecastBounds {
     }
   }
 
+  /** A drop that is poured later, or a step that is added, is not foretold. */
+  private static void placesIfNothingElse() {
+    WaterFibers clock = Clocks.of(1, 1, 2);
+    Clocks.steps(clock, 0, Clocks.TAKE, 0, 0);
+    Checks.same("without the drop", clock.placesWanted(0), -1);
+    Checks.same("without the drop, the other channel", clock.placesWanted(1), -1);
+    clock.pour(0, 1);
+    Checks.same("with the drop", clock.placesWanted(0), 1);
+    Checks.same("with the drop, the other channel", clock.placesWanted(1), 2);
+    Clocks.steps(clock, 0, Clocks.SEND, 1, 1, Clocks.SEND, 1, 2, Clocks.SEND, 1, 3);
+    Checks.same("with three steps more", clock.placesWanted(1), 3);
+  }
+
   private static void sendersWaitAllTheSame() {
     WaterFibers clock = Clocks.of(3, 1);
     Clocks.steps(clock, 0, Clocks.SEND, 0, 1, Clocks.SEND, 0, 2);
@@ -471,6 +490,38 @@ final class ForecastBounds {
 
   private static void digestIs(String what, WaterFibers clock, int... numbers) {
     Checks.same(what, clock.digest(), fold(numbers).longValue());
+  }
+
+  private static void digestChangesNothing() {
+    Twins.unchanged("digest(), new", WaterFibers::new, WaterFibers::digest);
+    Twins.unchanged("digest(), busy", Clocks::busy, WaterFibers::digest);
+    Twins.unchanged("digest(), full", Clocks::full, WaterFibers::digest);
+    WaterFibers clock = Clocks.busy();
+    Checks.same("the same again", clock.digest(), clock.digest());
+  }
+
+  private static void digestStepByStep() {
+    long d = 2213;
+    for (int x : new int[] {60, 0, 0, 0, 60, -1, 0, -1}) {
+      d = d * 31 + x;
+    }
+    WaterFibers clock = new WaterFibers();
+    clock.run(60);
+    Checks.same("eight numbers", clock.digest(), d);
+    clock.addFiber();
+    digestIs("and seven more", clock, 60, 0, 1, 1, 60, -1, 0, -1, 5, 0, 0, 0, 0, -1, 0);
+  }
+
+  private static void digestOfTheClock() {
+    WaterFibers clock = Clocks.of(3, 1);
+    Clocks.steps(clock, 0, Clocks.TAKE, 0, 0);
+    Clocks.steps(clock, 1, Clocks.SLEEP, 2, 0, Clocks.TAKE, 0, 0);
+    clock.run(3);
+    digestIs("one sleeps", clock, 3, 1, 3, 1, 1, -1, 0, 1, 0, 0, 1, -1, 2, 0, 0, 0, 1, -1, -1,
+        3, 1, 0, 1, 1, -1, -1, 5, 0, 0, 0, 0, -1, 0);
+    clock.run(1);
+    digestIs("stuck", clock, 4, 1, 3, 1, 1, -1, 1, 0, 0, 0, 2, -1, 2, 0, 0, 0, 1, -1, -1,
+        2, 1, 0, 1, 2, -1, -1, 5, 0, 0, 0, 0, -1, 0);
   }
 
   private static void digestOfNothing() {

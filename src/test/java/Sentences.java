@@ -2,7 +2,9 @@ import java.io.IOException;
 import java.nio.file.Files;
 import java.nio.file.Path;
 import java.util.ArrayList;
+import java.util.Arrays;
 import java.util.List;
+import java.util.regex.Pattern;
 
 /** Holds the class to the document's sentences, one by one, each by a test of its own. */
 final class Sentences {
@@ -12,79 +14,68 @@ final class Sentences {
 
   private static final Path DOCUMENT = Path.of("../shared/DOC.md");
   private static final int PROMISES = 29;
-  /** Lines of "Terms" that name no case of their own: what follows tells it. */
-  private static final String[] WITHOUT_A_CASE = {
-    "Ahead of ", "Fibers have steps:", "Steps have a kind", "A turn goes like this:",
+  /** Words that name a part of the document, join two sentences, or leave an answer free. */
+  private static final String[] ASKS_NOTHING = {
+    "what later calls answer is free", "Channels", "Fibers", "and", "or",
   };
 
-  private final List<String> terms = new ArrayList<>();
-  /** The lines of each promise, at its number. */
-  private final List<List<String>> promises = new ArrayList<>();
-  /** Of each promise the words that a test holds; at 0 those outside the promises. */
+  /** The lines of each promise, at its number; at 0 those ahead of the promises. */
+  private final List<List<String>> lines = new ArrayList<>();
+  /** The words of them that a test holds, likewise. */
   private final List<List<String>> held = new ArrayList<>();
 
   Sentences() throws IOException {
     for (int i = 0; i <= PROMISES; i++) {
-      promises.add(new ArrayList<>());
+      lines.add(new ArrayList<>());
       held.add(new ArrayList<>());
     }
-    List<String> section = promises.get(0);
+    List<String> section = lines.get(0);
     for (String line : Files.readAllLines(DOCUMENT)) {
       if (line.startsWith("## ")) {
         section = sectionOf(line);
-      } else if (!line.isBlank() && !line.startsWith("```")) {
+      } else if (!line.isBlank() && !line.startsWith("```") && !line.startsWith("# ")) {
         section.add(line);
       }
     }
   }
 
   private List<String> sectionOf(String heading) {
-    if (heading.equals("## Terms")) {
-      return terms;
-    }
     String mark = "## Promise ";
-    if (!heading.startsWith(mark)) {
-      return promises.get(0);
+    if (heading.startsWith(mark)) {
+      return lines.get(Integer.parseInt(heading.substring(mark.length(), heading.indexOf(':'))));
     }
-    return promises.get(Integer.parseInt(heading.substring(mark.length(), heading.indexOf(':'))));
+    // What is not promised is nothing that a test could hold the class to.
+    return heading.equals("## Not promised") ? new ArrayList<>() : lines.get(0);
   }
 
   /** The words stand in the promise, and the test makes checks that would fail if they were broken. */
   void hold(int promise, String words, Runnable test) {
-    held.get(promise).add(words);
-    run(promise, words, promises.get(promise), test);
+    run(promise, promise, words, test);
   }
 
-  /** The words stand in "Terms", or ahead of it, and the promise rests on them. */
+  /** The words stand ahead of the promises, in "Terms" most often, and the promise rests on them. */
   void holdTerm(int promise, String words, Runnable test) {
-    held.get(0).add(words);
-    List<String> lines = new ArrayList<>(terms);
-    lines.addAll(promises.get(0));
-    run(promise, words, lines, test);
+    run(promise, 0, words, test);
   }
 
-  private void run(int promise, String words, List<String> lines, Runnable test) {
+  private void run(int promise, int section, String words, Runnable test) {
+    held.get(section).add(words);
     Checks.under("P" + promise + " '" + words + "': ");
-    Checks.yes("these words stand in the document", isAmong(words, lines));
+    Checks.yes("these words stand in the document", isAmong(words, lines.get(section)));
     int before = Checks.made();
     Checks.answers("its test", test::run);
     Checks.yes("a check was made", Checks.made() > before + 1);
     Checks.under("");
   }
 
-  /** Each line of a promise that tells an answer or an exception, and each case of "Terms", is held. */
+  /** Each word of the document, but for those that ask nothing, stands among words that are held. */
   void areAllHeld() {
-    for (int promise = 1; promise <= PROMISES; promise++) {
-      Checks.yes("P" + promise + " is held to", !held.get(promise).isEmpty());
-      for (String line : promises.get(promise)) {
-        if (line.contains("Throws ") || line.contains("Returns ")) {
-          Checks.yes("P" + promise + " is held to: " + line, hasPart(line, held.get(promise)));
-        }
-      }
-    }
-    for (String line : terms) {
-      if (!startsWithOne(line, WITHOUT_A_CASE)) {
-        Checks.yes("Terms are held to: " + line, hasPart(line, held.get(0)));
+    for (int section = 0; section <= PROMISES; section++) {
+      String name = section == 0 ? "ahead of the promises" : "P" + section;
+      Checks.yes(name + " has lines", !lines.get(section).isEmpty());
+      for (String line : lines.get(section)) {
+        Checks.sameText(name + ", words without a test in: " + line, unheld(line, held.get(section)),
+            "");
       }
     }
   }
@@ -98,21 +89,23 @@ final class Sentences {
     return false;
   }
 
-  private static boolean hasPart(String line, List<String> parts) {
-    for (String part : parts) {
-      if (line.contains(part)) {
-        return true;
-      }
+  /** What is left of the line behind taking out the words that are held, and those that ask nothing. */
+  private static String unheld(String line, List<String> held) {
+    char[] left = line.toCharArray();
+    for (String words : held) {
+      blank(left, line, words);
     }
-    return false;
+    String rest = new String(left);
+    for (String words : ASKS_NOTHING) {
+      rest = rest.replaceAll("(?<!\\w)" + Pattern.quote(words) + "(?!\\w)", " ");
+    }
+    return rest.replaceAll("\\W+", " ").trim();
   }
 
-  private static boolean startsWithOne(String line, String[] starts) {
-    for (String start : starts) {
-      if (line.startsWith(start)) {
-        return true;
-      }
+  /** Blanks the words wherever they stand in the line. */
+  private static void blank(char[] left, String line, String words) {
+    for (int at = line.indexOf(words); at >= 0; at = line.indexOf(words, at + 1)) {
+      Arrays.fill(left, at, at + words.length(), ' ');
     }
-    return false;
   }
 }

@@ -38,6 +38,7 @@ final class SetupBounds {
     sentences.hold(4, Sentences.NO_FIBER, SetupBounds::stepOfNoFiber);
     sentences.hold(4, "Throws `IllegalArgumentException` if kind is not 0 to 6",
         SetupBounds::kindsZeroToSix);
+    sentences.hold(4, "or, by the kind:", SetupBounds::numbersByTheKind);
     sentences.hold(4, "one is not a channel (0, 1, 6)", SetupBounds::channelsOfSteps);
     sentences.hold(4, "not 1 to 20 (2)", SetupBounds::turnsOfSleep);
     sentences.hold(4, "not a fiber, or this one itself (4)", SetupBounds::fibersOfSteps);
@@ -198,6 +199,26 @@ final class SetupBounds {
     }
     for (int kind = 0; kind <= 6; kind++) {
       rightStep(0, kind, 1, 1, 2);
+    }
+  }
+
+  /** With 3 channels, 7 fibers, and 4 steps of the fiber 3: what is right for one kind alone. */
+  private static void numbersByTheKind() {
+    int[][] right = {
+      {Clocks.SEND, 2, 999}, {Clocks.TAKE, 2, 1000}, {Clocks.SLEEP, 20, 1000},
+      {Clocks.GIVE_WAY, 1000, 1000}, {Clocks.WAIT_FOR, 6, 1000}, {Clocks.GO_BACK, 4, 9},
+      {Clocks.SEND_SUM, 2, 1000},
+    };
+    for (int[] step : right) {
+      rightStep(3, step[0], step[1], step[2], 4);
+    }
+    int[][] wrong = {
+      {Clocks.SEND, 2, 1000}, {Clocks.SEND, 4, 9}, {Clocks.TAKE, 6, 1}, {Clocks.SLEEP, 0, 1},
+      {Clocks.WAIT_FOR, 20, 1}, {Clocks.WAIT_FOR, 3, 1}, {Clocks.GO_BACK, 6, 1},
+      {Clocks.GO_BACK, 4, 999}, {Clocks.SEND_SUM, 4, 9},
+    };
+    for (int[] step : wrong) {
+      wrongStep(3, step[0], step[1], step[2]);
     }
   }
 

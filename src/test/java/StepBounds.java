@@ -4,6 +4,8 @@ final class StepBounds {
   }
 
   static void hold(Sentences sentences) {
+    sentences.holdTerm(4, "Steps have a kind and two numbers, called one and two:",
+        StepBounds::kindAndTwoNumbersAreKept);
     sentences.holdTerm(6, "0: sends a drop of the value two into the channel one, if that has room",
         StepBounds::sendsIntoTheLastPlace);
     sentences.holdTerm(6, "otherwise the fiber waits to send there, and the step is not done.",
@@ -31,6 +33,28 @@ final class StepBounds {
     sentences.holdTerm(6, "as the kind 0.", StepBounds::sendsTheSumAsTheKindZero);
     sentences.holdTerm(6, "A step that is done moves the place to the next one, but for going back.",
         StepBounds::eachKindMovesThePlace);
+  }
+
+  /** Steps of one fiber, each with other numbers, are done as they were added. */
+  private static void kindAndTwoNumbersAreKept() {
+    WaterFibers clock = Clocks.of(2, 4, 4, 4);
+    Clocks.steps(clock, 0, Clocks.SEND, 2, -7, Clocks.SEND, 1, 8, Clocks.TAKE, 1, 5,
+        Clocks.SEND_SUM, 0, 3, Clocks.SLEEP, 4, 9, Clocks.WAIT_FOR, 1, 2, Clocks.GO_BACK, 6, 3,
+        Clocks.GO_BACK, 7, 2);
+    Clocks.steps(clock, 1, Clocks.SLEEP, 8, 1);
+    clock.run(2);
+    Checks.sameText("the drops", Clocks.drops(clock, 2) + "/" + Clocks.drops(clock, 1) + "/"
+        + Clocks.drops(clock, 0), "-7//8");
+    Checks.same("behind four steps", clock.placeOf(0), 4);
+    clock.run(4);
+    Checks.sameText("both sleep", Clocks.states(clock), "33");
+    clock.run(1);
+    Checks.sameText("the 0 waits for the 1", Clocks.states(clock), "43");
+    clock.run(3);
+    Checks.sameText("the 1 is done", Clocks.states(clock), "05");
+    clock.run(2);
+    Checks.same("the steps of 0 with going back", clock.stepsDone(0), 6 + 4 + 3);
+    Checks.sameText("all are done", Clocks.states(clock), "55");
   }
 
   private static void sendsIntoTheLastPlace() {

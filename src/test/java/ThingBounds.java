@@ -12,6 +12,7 @@ final class ThingBounds {
         ThingBounds::placesFillByHand);
     sentences.holdTerm(6, "each holds up to as many drops as it has places, 1 to 4",
         ThingBounds::placesFillBySteps);
+    sentences.holdTerm(15, "A drop has a value", ThingBounds::eachDropHasItsValue);
     sentences.holdTerm(15, "the one that came first is taken first",
         ThingBounds::dropsGoRoundInOrder);
     sentences.holdTerm(3, "At most 8, numbered likewise", ThingBounds::fibersFromNoneToEight);
@@ -20,6 +21,8 @@ final class ThingBounds {
     sentences.holdTerm(19, "a place (the step that it does next, 0 at first)",
         ThingBounds::placeIsZeroAtFirst);
     sentences.holdTerm(20, "a sum (0, at first)", ThingBounds::sumIsZeroAtFirst);
+    sentences.holdTerm(18, "is in a state: 0 ready, 1 waits to send, 2 waits to take, 3 sleeps,"
+        + " 4 waits for a fiber, 5 done.", ThingBounds::statesByTheirNumbers);
     sentences.holdTerm(3, "A new one, without steps, is done.", ThingBounds::newFiberIsDone);
     sentences.holdTerm(20, "Sums are 32-bit integers, which wrap around.",
         ThingBounds::sumsWrapAround);
@@ -115,6 +118,41 @@ final class ThingBounds {
       Checks.same("sumOf(0) behind the drop " + taken, clock.sumOf(0), sum);
     }
     Checks.same("held(0) behind all", clock.held(0), 0);
+  }
+
+  private static void eachDropHasItsValue() {
+    int[] values = {-999, 0, 999, -999};
+    WaterFibers clock = Clocks.of(1, 4);
+    for (int drop = 0; drop < 4; drop++) {
+      clock.pour(0, values[drop]);
+    }
+    for (int drop = 0; drop < 4; drop++) {
+      Checks.same("valueAt(0, " + drop + ")", clock.valueAt(0, drop), values[drop]);
+    }
+  }
+
+  private static void statesByTheirNumbers() {
+    stateIs("ready", 0, Clocks.GIVE_WAY, 0);
+    stateIs("waits to send", 1, Clocks.SEND, 0);
+    stateIs("waits to send its sum", 1, Clocks.SEND_SUM, 0);
+    stateIs("waits to take", 2, Clocks.TAKE, 1);
+    stateIs("sleeps", 3, Clocks.SLEEP, 9);
+    stateIs("waits for a fiber", 4, Clocks.WAIT_FOR, 1);
+    stateIs("done", 5, Clocks.TAKE, 0);
+  }
+
+  /** The state of a fiber behind a turn, its first step being of the kind. */
+  private static void stateIs(String what, int due, int kind, int one) {
+    WaterFibers clock = Clocks.of(2, 1, 1);
+    clock.pour(0, 1);
+    clock.addStep(0, kind, one, 1);
+    if (due != Clocks.DONE) {
+      clock.addStep(0, Clocks.GIVE_WAY, 0, 0);
+    }
+    clock.addStep(1, Clocks.SLEEP, 20, 0);
+    Checks.same("ahead of its turn", clock.stateOf(0), Clocks.READY);
+    clock.run(1);
+    Checks.same(what, clock.stateOf(0), due);
   }
 
   private static void fibersFromNoneToEight() {

@@ -14,9 +14,10 @@ final class TurnBounds {
         TurnBounds::mayHaveToWaitAgain);
     sentences.holdTerm(6, "With a fiber that is done, all that wait for it are ready.",
         TurnBounds::fromNoneToSevenWaitForOne);
+    sentences.holdTerm(6, "A turn goes like this:", TurnBounds::aTurnGoesInThisOrder);
     sentences.holdTerm(6, "1. All that slept till this turn are ready.",
         TurnBounds::fromNoneToEightWakeAtOnce);
-    sentences.holdTerm(6, "The first fiber of the line, if there is one, leaves it",
+    sentences.holdTerm(6, "2. The first fiber of the line, if there is one, leaves it",
         TurnBounds::theFirstLeavesTheLine);
     sentences.holdTerm(6, "does steps, one after the other, as long as it is ready",
         TurnBounds::stopsWhenItIsNotReady);
@@ -181,6 +182,26 @@ final class TurnBounds {
     Clocks.steps(early, 1, Clocks.SLEEP, 3, 0);
     early.run(4);
     Checks.sameText("one whose turn is the next sleeps still", Clocks.states(early), "53");
+  }
+
+  /** What sleeps is woken ahead of the first fiber's turn, and the time is told behind it. */
+  private static void aTurnGoesInThisOrder() {
+    WaterFibers clock = Clocks.of(3);
+    Clocks.steps(clock, 1, Clocks.SLEEP, 3, 0, Clocks.GIVE_WAY, 0, 0, Clocks.GIVE_WAY, 0, 0);
+    Clocks.steps(clock, 2, Clocks.SLEEP, 2, 0, Clocks.GIVE_WAY, 0, 0, Clocks.GIVE_WAY, 0, 0);
+    for (int step = 0; step < 4; step++) {
+      clock.addStep(0, Clocks.GIVE_WAY, 0, 0);
+    }
+    clock.run(3);
+    Checks.sameText("both sleep till the turn 3", Clocks.states(clock), "033");
+    Checks.sameText("the line ahead of it", Clocks.line(clock), "0");
+    Checks.same("the turn 3", clock.run(1), 0);
+    Checks.sameText("the line behind it", Clocks.line(clock), "120");
+    Checks.same("the time behind it", clock.time(), 4);
+    WaterFibers alone = Clocks.of(1);
+    Clocks.steps(alone, 0, Clocks.SLEEP, 1, 0, Clocks.SLEEP, 1, 0);
+    Checks.same("woken ahead of each turn, it has all of them", alone.run(3), 0);
+    Checks.same("its turns", alone.turnsOf(0), 3);
   }
 
   private static void theFirstLeavesTheLine() {
