@@ -512,16 +512,19 @@ final class ForecastBounds {
     digestIs("and seven more", clock, 60, 0, 1, 1, 60, -1, 0, -1, 5, 0, 0, 0, 0, -1, 0);
   }
 
+  /** The eight numbers of the clock are all different. */
   private static void digestOfTheClock() {
-    WaterFibers clock = Clocks.of(3, 1);
+    WaterFibers clock = Clocks.of(5, 1, 1);
     Clocks.steps(clock, 0, Clocks.TAKE, 0, 0);
-    Clocks.steps(clock, 1, Clocks.SLEEP, 2, 0, Clocks.TAKE, 0, 0);
-    clock.run(3);
-    digestIs("one sleeps", clock, 3, 1, 3, 1, 1, -1, 0, 1, 0, 0, 1, -1, 2, 0, 0, 0, 1, -1, -1,
-        3, 1, 0, 1, 1, -1, -1, 5, 0, 0, 0, 0, -1, 0);
+    Clocks.steps(clock, 1, Clocks.SLEEP, 5, 0, Clocks.TAKE, 0, 0);
+    clock.run(6);
+    digestIs("one sleeps", clock, 6, 2, 5, 3, 4, -1, 0, 1, 0, 0, 1, -1, 0, 0, 0, -1,
+        2, 0, 0, 0, 1, -1, -1, 3, 1, 0, 1, 1, -1, -1,
+        5, 0, 0, 0, 0, -1, 0, 5, 0, 0, 0, 0, -1, 0, 5, 0, 0, 0, 0, -1, 0);
     clock.run(1);
-    digestIs("stuck", clock, 4, 1, 3, 1, 1, -1, 1, 0, 0, 0, 2, -1, 2, 0, 0, 0, 1, -1, -1,
-        2, 1, 0, 1, 2, -1, -1, 5, 0, 0, 0, 0, -1, 0);
+    digestIs("stuck", clock, 7, 2, 5, 3, 4, -1, 1, 0, 0, 0, 2, -1, 0, 0, 0, -1,
+        2, 0, 0, 0, 1, -1, -1, 2, 1, 0, 1, 2, -1, -1,
+        5, 0, 0, 0, 0, -1, 0, 5, 0, 0, 0, 0, -1, 0, 5, 0, 0, 0, 0, -1, 0);
   }
 
   private static void digestOfNothing() {

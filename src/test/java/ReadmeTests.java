@@ -91,7 +91,7 @@ final class ReadmeTests {
 
   private void tellsHowToRunTheTests() {
     Checks.yes("README.md says how to run the tests", readme.contains("\nbash .ci/run\n"));
-    Checks.yes("it can be run so", Files.isExecutable(Path.of(".ci/run")));
+    Checks.yes("it is there", Files.isRegularFile(Path.of(".ci/run")));
   }
 
   private void samePrinted(String what, List<String> printed) {
@@ -129,7 +129,7 @@ final class ReadmeTests {
   private static List<String> run(Path directory, String... command)
       throws IOException, InterruptedException {
     Process process = new ProcessBuilder(command).directory(directory.toFile())
-        .redirectErrorStream(true).start();
+        .redirectError(ProcessBuilder.Redirect.INHERIT).start();
     process.getOutputStream().close();
     String printed = new String(process.getInputStream().readAllBytes(), StandardCharsets.UTF_8);
     Checks.same(String.join(" ", command) + ", its exit code", process.waitFor(), 0);
